@@ -1,0 +1,80 @@
+/** What all tests need: calls compared with what is due, and texts fed as bytes. Not a test itself. */
+final class Check {
+    interface Call {
+        long answer();
+    }
+
+    static final Class<?> ARGUMENT = IllegalArgumentException.class;
+    static final Class<?> INDEX = IndexOutOfBoundsException.class;
+    static final Class<?> STATE = IllegalStateException.class;
+
+    private static int wrong;
+
+    private Check() {
+    }
+
+    static void due(String call, long got, long want) {
+        if (got != want) {
+            wrong++;
+            System.out.println(call + " answered " + got + ", due is " + want);
+        }
+    }
+
+    static void due(String call, boolean got, boolean want) {
+        due(call, got ? 1 : 0, want ? 1 : 0);
+    }
+
+    static void dueThrows(String call, Class<?> want, Call made) {
+        try {
+            wrong++;
+            System.out.println(call + " answered " + made.answer() + ", due is " + want);
+        } catch (RuntimeException e) {
+            if (e.getClass() == want) {
+                wrong--;
+            } else {
+                System.out.println(call + " threw " + e + ", due is " + want);
+            }
+        }
+    }
+
+    /** Feeds a text, blanks behind it up to full feeds, and reads it as the RULE. */
+    static int rule(PartyWalls x, String text) {
+        for (int i = 0; i < text.length(); i += 20) {
+            x.feed(four(text, i), four(text, i + 4), four(text, i + 8), four(text, i + 12), four(text, i + 16));
+        }
+        return x.rule(text.length());
+    }
+
+    private static int four(String text, int from) {
+        int number = 0;
+        for (int i = from; i < from + 4; i++) {
+            number = number << 8 | (i < text.length() ? text.charAt(i) : ' ');
+        }
+        return number;
+    }
+
+    static void dueRule(PartyWalls x, String text, int want, int place) {
+        due("rule of '" + text + "'", rule(x, text), want);
+        due("fault of '" + text + "'", x.fault(), place);
+    }
+
+    /** An object with some owners, of which 0 and 1 have WALL 0, and a RULE. */
+    static PartyWalls withWall(int owners, String text) {
+        PartyWalls x = new PartyWalls();
+        for (int i = 0; i < owners; i++) {
+            x.owner();
+        }
+        x.wall(0, 1);
+        if (rule(x, text) < 0) {
+            due("fault of '" + text + "'", x.fault(), -1);
+        }
+        return x;
+    }
+
+    static void end() {
+        System.out.println(wrong == 0 ? "as due" : wrong + " not as due");
+        if (wrong != 0) {
+            System.exit(1);
+        }
+    }
+}
