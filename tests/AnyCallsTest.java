@@ -75,6 +75,7 @@ public final class AnyCallsTest {
             String call = "run " + seed + ", " + method.getName() + Arrays.toString(arguments);
             boolean named = Arrays.asList(method.getExceptionTypes()).contains(thrown);
             Check.due(call + " throws " + thrown + ", which it names", named, true);
+            Check.due(call + " throws by its own code", Check.isThrownByCode(e.getCause()), true);
             Check.due(call + " throws " + thrown + " and changes nothing", counts(x), before);
             return thrown.getName().length();
         } catch (IllegalAccessException e) {

@@ -141,7 +141,9 @@ public final class CellsTest {
 
     private static void promise26Fade() {
         PartyWalls x = building(2, "fade 30;");
+        x.wait(300);
         x.build(0, 0, 0, 3, 99);
+        x.build(0, 1, 1, 1, 100_000);
         x.wait(364);
         Check.due("a day ahead of a year", x.cell(0, 0, 0, 1), 99);
         x.wait(1);
@@ -154,6 +156,7 @@ public final class CellsTest {
         Check.due("three years", x.cell(0, 0, 0, 1), 9);
         x.wait(365);
         Check.due("0 at least", x.cell(0, 0, 0, 1), 0);
+        Check.due("0 at least of the most", x.cell(0, 1, 0, 1), 0);
         Check.due("of no value", x.use(0, 1, 0, 0, 2), 0);
         Check.due("it is used so far", x.cell(0, 0, 1, 2), 3);
         Check.due("and one above not", x.cell(0, 0, 2, 2), 1);

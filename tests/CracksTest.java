@@ -158,6 +158,7 @@ public final class CracksTest {
         x.survey(0);
         x.crack(2, 100, 0);
         Check.rule(x, "");
+        dueJoined(x, 20, 0, 0, 0, 1_000);
         Check.due("smaller", x.joined(2, 2, 0), 1);
         Check.due("smaller, apart", x.joined(2, 0, 4), 0);
         Check.due("smaller, its pair", x.pair(2, 0, 0), 1);

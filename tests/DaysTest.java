@@ -13,6 +13,8 @@ public final class DaysTest {
         promise7Conditions();
         promise7Limits();
         promise7LastCounts();
+        promise7FirstBytes();
+        promise7Without();
         promise8();
         promise9();
         promise44();
@@ -73,6 +75,9 @@ public final class DaysTest {
         Check.dueThrows("sell side -1", Check.ARGUMENT, () -> x.sell(0, -1, 0));
         Check.dueThrows("sell side 2 to none", Check.INDEX, () -> x.sell(0, 2, 4));
         Check.due("side 0 is still of", x.sell(0, 0, 1), 2);
+        x.wall(3, 2);
+        Check.due("side 0 of another", x.sell(1, 0, 1), 3);
+        Check.due("side 1 of another", x.sell(1, 1, 1), 2);
     }
 
     private static void promise5() {
@@ -149,6 +154,7 @@ public final class DaysTest {
             Check.dueRule(x, word + " ;", -9, word.length() + 1);
         }
         Check.dueRule(x, "fade 100;", 1, -1);
+        Check.dueRule(x, "fade 0;", 1, -1);
         Check.dueRule(x, "fade 101;", -8, 5);
         Check.dueRule(x, "fade x;", -9, 5);
         Check.dueRule(x, "post 000000000000000000004;", 1, -1);
@@ -156,6 +162,10 @@ public final class DaysTest {
         Check.dueRule(x, "post 18446744073709551617;", -8, 5);
         Check.dueRule(x, "rest 0 1 2 3 4 5 6 6;", 1, -1);
         Check.dueRule(x, "rest 0 12;", -8, 7);
+        Check.dueRule(x, "rest 7;", -8, 5);
+        Check.dueRule(x, "rest 8;", -8, 5);
+        Check.dueRule(x, "rest 0 7;", -8, 7);
+        Check.dueRule(x, "rest 0 8;", -8, 7);
         Check.dueRule(x, "rest 10;", -8, 5);
         Check.dueRule(x, "rest;", -9, 4);
         Check.dueRule(x, "rest 1 x;", -9, 7);
@@ -181,7 +191,7 @@ public final class DaysTest {
         Check.dueRule(x, "silence 3;", -9, 8);
         Check.dueRule(x, "silence   ", -9, 10);
         for (String word : new String[] {"if", "consent", "dispute", "or", "and", "not", "depth", "close",
-                "height", "posts", "raised", "x"}) {
+                "height", "posts", "raised", "x", "xost", "hire", "postz", "zpost", "pos", "os"}) {
             Check.dueRule(x, " " + word + " 1;", -9, 1);
         }
         Check.dueRule(x, "raise5if depth<3;", 1, -1);
@@ -198,6 +208,8 @@ public final class DaysTest {
         Check.dueRule(x, "cut 5 if depth<10000x", -8, 15);
         Check.dueRule(x, "cut 5 if depth 3;", -9, 15);
         Check.dueRule(x, "cut 5 if depth<>3;", -9, 15);
+        Check.dueRule(x, "cut 5 if depth;", -9, 14);
+        Check.dueRule(x, "cut 5 if depth and close<3;", -9, 15);
         Check.dueRule(x, "cut 5 if width<3;", -9, 9);
         Check.dueRule(x, "cut 5 if 3<depth;", -9, 9);
         Check.dueRule(x, "cut 5 if if;", -9, 9);
@@ -262,6 +274,47 @@ public final class DaysTest {
         x.wait(4);
         Check.due("consent", x.answer(3, true), 1);
         Check.due("dig 30", x.told(3, 0), 39);
+    }
+
+    /** What stands on the TAPE behind the first n bytes is none of the text. */
+    private static void promise7FirstBytes() {
+        String text = "post 40;dig 3 if depth<4;";
+        int[] places = {-1, 0, 0, 0, 4, 5, 6, 7, -1, 8, 8, 11, 12, 13, 14, 14, 16, 17, 17, 17, 17, 17, 22, 23, 24, -1};
+        for (int n = 0; n <= text.length(); n++) {
+            PartyWalls x = new PartyWalls();
+            Check.rule(x, text);
+            Check.due("whole", x.fault(), -1);
+            x.feed(0x706f7374, 0x2034303b, 0x64696720, 0x33206966, 0x20646570);
+            x.feed(0x74683c34, 0x3b3b3b3b, 0, 0, 0);
+            int clauses = n < 8 ? 0 : n < 25 ? 1 : 2;
+            Check.due("first " + n, x.rule(n), places[n] < 0 ? clauses : -9);
+            Check.due("place of the first " + n, x.fault(), places[n]);
+        }
+    }
+
+    private static void promise7Without() {
+        PartyWalls x = Check.withWall(2, "");
+        for (int sort = 0; sort < 4; sort++) {
+            x.work(0, 0, sort, 0, 0, 0);
+            Check.due("post 0", x.notice(sort), 0);
+            Check.due("reply 14", x.told(sort, 5), 14);
+            x.answer(sort, true);
+            Check.due("30 days of notice", x.told(sort, 0), 30);
+        }
+        x.work(0, 0, 0, 0, 0, 0);
+        x.notice(4);
+        x.wait(15);
+        Check.due("silence dispute", x.told(4, 1), 15);
+        x.surveyor(0);
+        x.surveyor(0);
+        x.appoint(4, 0, 0, 0);
+        x.wait(10);
+        Check.due("appoint 10", x.appoint(4, 1, 1, 0), -3);
+        x.wait(1);
+        Check.due("behind 10", x.appoint(4, 1, 1, 0), 1);
+        x.propose(4, 0, 26, 817, 0);
+        x.propose(4, 1, 26, 817, 0);
+        Check.due("appeal 14", x.told(4, 6), 40);
     }
 
     private static void promise8() {

@@ -412,8 +412,8 @@ public final class WorksTest {
         Check.due("no dispute any more", x.propose(0, 0, 8, 817, 52), -1);
         x.appeal(0);
         // None of those stands any more.
-        Check.due("not alike with an old one", x.propose(0, 0, 8, 817, 50), 0);
-        Check.due("not alike with old ones", x.propose(0, 2, 8, 817, 52), 0);
+        Check.due("not alike with that of side 0", x.propose(0, 2, 8, 817, 52), 0);
+        Check.due("not alike with that of the third", x.propose(0, 0, 8, 817, 50), 0);
         Check.due("awarded again", x.propose(0, 1, 8, 817, 52), 1);
         Check.due("its share", x.told(0, 4), 52);
     }

@@ -557,9 +557,6 @@ public final class PartyWalls {
     public int pair(int before, int after, int k) throws IndexOutOfBoundsException {
         Survey first = surveyAt(before);
         Survey second = surveyAt(after);
-        if (k < 0 || k >= first.cracks()) {
-            return NONE;
-        }
         joining.join(first, second, ruleNow.near);
         return joining.partnerOf(k);
     }
@@ -726,38 +723,38 @@ public final class PartyWalls {
 
     /** The words of a RULE's text; NO_WORD stands for none of them. */
     private enum Word {
-        NO_WORD(""), RAISE("raise"), CUT("cut"), DIG("dig"), COVER("cover"), POST("post"), REST("rest"),
-        REPLY("reply"), SILENCE("silence"), APPOINT("appoint"), APPEAL("appeal"), FADE("fade"),
-        SEASON("season"), NEAR("near"), HOURS("hours"), IF("if"), CONSENT("consent"), DISPUTED("dispute"),
-        OR("or"), AND("and"), NOT("not"), DEPTH("depth"), CLOSE("close"), HEIGHT("height");
+        NO_WORD("", false), RAISE("raise", true), CUT("cut", true), DIG("dig", true), COVER("cover", true),
+        POST("post", true), REST("rest", true), REPLY("reply", true), SILENCE("silence", true),
+        APPOINT("appoint", true), APPEAL("appeal", true), FADE("fade", true), SEASON("season", true),
+        NEAR("near", true), HOURS("hours", true), IF("if", false), CONSENT("consent", false),
+        DISPUTED("dispute", false), OR("or", false), AND("and", false), NOT("not", false),
+        DEPTH("depth", false), CLOSE("close", false), HEIGHT("height", false);
 
         private static final Word[] ALL = values();
         private final String text;
+        private final boolean opensClause;
 
-        Word(String text) {
+        Word(String text, boolean opensClause) {
             this.text = text;
+            this.opensClause = opensClause;
         }
 
         /** The word that is all of the bytes from one place to (not at) another. */
         static Word of(byte[] bytes, int from, int end) {
+            if (from < 0 || end > bytes.length) {
+                return NO_WORD;
+            }
             for (int i = 0; i < ALL.length; i++) {
-                if (ALL[i].isAll(bytes, from, end)) {
+                String text = ALL[i].text;
+                int same = 0;
+                while (same < text.length() && from + same < end && bytes[from + same] == text.charAt(same)) {
+                    same++;
+                }
+                if (same == text.length() && from + same == end) {
                     return ALL[i];
                 }
             }
             return NO_WORD;
-        }
-
-        private boolean isAll(byte[] bytes, int from, int end) {
-            if (from < 0 || end > bytes.length || end - from != text.length()) {
-                return false;
-            }
-            for (int i = 0; i < text.length(); i++) {
-                if (bytes[from + i] != text.charAt(i)) {
-                    return false;
-                }
-            }
-            return true;
         }
     }
 
@@ -837,18 +834,27 @@ public final class PartyWalls {
         }
     }
 
-    /** Reads a RULE from the TAPE; what reads a part answers whether it stands without FAULT. */
+    /**
+     * Reads a RULE from the TAPE, one part (a word, an N, or a sign) ahead: what the next part is not
+     * is NO_WORD, NONE or NO_SIGN, and behind the last one it is none of the three.
+     * What reads a piece of the text answers whether it stands without FAULT.
+     */
     private static final class RuleReader {
         private static final int NOT_HERE = 1;
         private static final int NO_SUCH_NUMBER = 2;
         private static final int TOO_MANY = 3;
+        private static final char NO_SIGN = 0;
 
         private final byte[] text;
         private final int[] steps = new int[TAPE_BYTES];
         private int stepCount;
         private int end;
+        private int start;
         private int place;
-        private int number;
+        private Word word = Word.NO_WORD;
+        private int number = NONE;
+        private char sign = NO_SIGN;
+        private int taken;
         private Rule rule = new Rule();
         private int faultKind;
         private int faultPlace = NONE;
@@ -873,130 +879,169 @@ public final class PartyWalls {
             faultKind = 0;
             faultPlace = NONE;
             boolean fine = true;
-            skipBlanks();
-            for (int round = 0; round < end && fine && place < end; round++) {
+            advance();
+            for (int round = 0; round < end && fine && start < end; round++) {
                 fine = readClause();
-                skipBlanks();
             }
             return fine ? rule : null;
         }
 
-        private boolean fail(int kind, int where) {
+        /** The next part, from its first byte (start) to what is behind it (place). */
+        private void advance() {
+            word = Word.NO_WORD;
+            number = NONE;
+            sign = NO_SIGN;
+            while (place < end && text[place] == ' ') {
+                place++;
+            }
+            start = place;
+            if (isWithin('a', 'z')) {
+                while (isWithin('a', 'z')) {
+                    place++;
+                }
+                word = Word.of(text, start, place);
+            } else if (isWithin('0', '9')) {
+                number = 0;
+                while (isWithin('0', '9')) {
+                    // Above all that an N may be it is held, however many digits come.
+                    number = Math.min(10 * number + text[place] - '0', MOST_MEASURE + 1);
+                    place++;
+                }
+            } else if (place < end) {
+                sign = (char) (text[place] & 255);
+                place++;
+            }
+        }
+
+        private boolean isWithin(char first, char last) {
+            return place < end && text[place] >= first && text[place] <= last;
+        }
+
+        private boolean fail(int kind) {
             faultKind = kind;
-            faultPlace = where;
+            faultPlace = start;
             return false;
         }
 
+        private boolean takeSign(char wanted) {
+            if (sign != wanted) {
+                return fail(NOT_HERE);
+            }
+            advance();
+            return true;
+        }
+
+        private boolean takeNumber(int least, int most) {
+            if (number == NONE) {
+                return fail(NOT_HERE);
+            }
+            if (number < least || number > most) {
+                return fail(NO_SUCH_NUMBER);
+            }
+            taken = number;
+            advance();
+            return true;
+        }
+
         private boolean readClause() {
-            int start = place;
-            Word word = takeWord();
-            if (!opensClause(word)) {
-                return fail(NOT_HERE, start);
+            Word opening = word;
+            if (!opening.opensClause) {
+                return fail(NOT_HERE);
             }
             if (rule.clauses >= MOST_CLAUSES) {
-                return fail(TOO_MANY, start);
+                return fail(TOO_MANY);
             }
             rule.clauses++;
-            return readRestOfClause(word) && takeSign(';');
-        }
-
-        private static boolean opensClause(Word word) {
-            switch (word) {
-                case RAISE: case CUT: case DIG: case COVER: case POST: case REST: case REPLY:
-                case SILENCE: case APPOINT: case APPEAL: case FADE: case SEASON: case NEAR: case HOURS:
-                    return true;
-                default:
-                    return false;
-            }
-        }
-
-        private boolean readRestOfClause(Word word) {
-            switch (word) {
+            advance();
+            boolean fine;
+            switch (opening) {
                 case RAISE:
-                    return readNotice(0);
+                    fine = readNotice(0);
+                    break;
                 case CUT:
-                    return readNotice(1);
+                    fine = readNotice(1);
+                    break;
                 case DIG:
-                    return readNotice(2);
+                    fine = readNotice(2);
+                    break;
                 case COVER:
-                    return readNotice(3);
+                    fine = readNotice(3);
+                    break;
                 case REST:
-                    return readRestDays();
+                    fine = readRestDays();
+                    break;
                 case SILENCE:
-                    return readSilence();
+                    fine = readSilence();
+                    break;
                 case HOURS:
-                    return readHours();
-                case FADE:
-                    return readFade();
+                    fine = readHours();
+                    break;
                 default:
-                    return readDays(word);
+                    fine = readSetting(opening);
+                    break;
             }
+            return fine && takeSign(';');
         }
 
-        private boolean readDays(Word word) {
-            if (!takeNumber(0, MOST_DAYS)) {
+        private boolean readSetting(Word opening) {
+            if (!takeNumber(0, opening == Word.FADE ? 100 : MOST_DAYS)) {
                 return false;
             }
-            switch (word) {
+            switch (opening) {
                 case POST:
-                    rule.post = number;
+                    rule.post = taken;
                     return true;
                 case REPLY:
-                    rule.reply = number;
+                    rule.reply = taken;
                     return true;
                 case APPOINT:
-                    rule.appoint = number;
+                    rule.appoint = taken;
                     return true;
                 case APPEAL:
-                    rule.appeal = number;
+                    rule.appeal = taken;
+                    return true;
+                case FADE:
+                    rule.fade = taken;
                     return true;
                 case SEASON:
-                    rule.season = number;
+                    rule.season = taken;
                     return true;
                 default:
-                    rule.near = number;
+                    rule.near = taken;
                     return true;
             }
-        }
-
-        private boolean readFade() {
-            boolean fine = takeNumber(0, 100);
-            rule.fade = number;
-            return fine;
         }
 
         private boolean readRestDays() {
-            int days = 0;
-            boolean fine = takeNumber(0, WEEK - 1);
-            for (int round = 0; round < end && fine; round++) {
-                days |= 1 << number;
-                skipBlanks();
-                if (!isDigitHere()) {
-                    break;
-                }
+            rule.restDays = 0;
+            boolean fine = true;
+            boolean more = true;
+            for (int round = 0; round < end && fine && more; round++) {
                 fine = takeNumber(0, WEEK - 1);
+                rule.restDays |= 1 << taken;
+                more = number != NONE;
             }
-            rule.restDays = days;
             return fine;
         }
 
         private boolean readSilence() {
-            skipBlanks();
-            int start = place;
-            Word word = takeWord();
+            if (word != Word.CONSENT && word != Word.DISPUTED) {
+                return fail(NOT_HERE);
+            }
             rule.silenceConsents = word == Word.CONSENT;
-            return word == Word.CONSENT || word == Word.DISPUTED || fail(NOT_HERE, start);
+            advance();
+            return true;
         }
 
         private boolean readHours() {
             if (!takeNumber(0, 24)) {
                 return false;
             }
-            rule.firstHour = number;
+            rule.firstHour = taken;
             if (!takeSign('-') || !takeNumber(rule.firstHour + 1, 24)) {
                 return false;
             }
-            rule.endHour = number;
+            rule.endHour = taken;
             return true;
         }
 
@@ -1004,45 +1049,61 @@ public final class PartyWalls {
             if (!takeNumber(0, MOST_DAYS)) {
                 return false;
             }
-            rule.noticeDays[sort] = number;
+            rule.noticeDays[sort] = taken;
             stepCount = 0;
-            boolean fine = !takeWordIf(Word.IF) || readAnyOf(0);
+            boolean fine = true;
+            if (word == Word.IF) {
+                advance();
+                fine = readAnyOf(0);
+            }
             rule.noticeIf[sort] = Arrays.copyOf(steps, stepCount);
             return fine;
         }
 
+        /** C; open is how many "not" and "(" are open around it. */
         private boolean readAnyOf(int open) {
             boolean fine = readAllOf(open);
-            for (int round = 0; round < end && fine && takeWordIf(Word.OR); round++) {
+            for (int round = 0; round < end && fine && word == Word.OR; round++) {
+                advance();
                 fine = readAllOf(open) && addStep(Rule.OR_STEP);
             }
             return fine;
         }
 
+        /** A. */
         private boolean readAllOf(int open) {
             boolean fine = readOne(open);
-            for (int round = 0; round < end && fine && takeWordIf(Word.AND); round++) {
+            for (int round = 0; round < end && fine && word == Word.AND; round++) {
+                advance();
                 fine = readOne(open) && addStep(Rule.AND_STEP);
             }
             return fine;
         }
 
+        /** B. */
         private boolean readOne(int open) {
-            skipBlanks();
-            int start = place;
-            boolean opens = takeSignIf('(');
-            Word word = opens ? Word.NO_WORD : takeWord();
-            if ((opens || word == Word.NOT) && open >= MOST_OPEN) {
-                return fail(TOO_MANY, start);
-            }
-            if (opens) {
-                return readAnyOf(open + 1) && takeSign(')');
-            }
-            if (word == Word.NOT) {
-                return readOne(open + 1) && addStep(Rule.NOT_STEP);
+            boolean isNot = word == Word.NOT;
+            if (isNot || sign == '(') {
+                if (open >= MOST_OPEN) {
+                    return fail(TOO_MANY);
+                }
+                advance();
+                return isNot
+                        ? readOne(open + 1) && addStep(Rule.NOT_STEP)
+                        : readAnyOf(open + 1) && takeSign(')');
             }
             int measure = measureOf(word);
-            return measure == NONE ? fail(NOT_HERE, start) : readComparison(measure);
+            if (measure == NONE) {
+                return fail(NOT_HERE);
+            }
+            advance();
+            boolean above = sign == '>';
+            if (!above && sign != '<') {
+                return fail(NOT_HERE);
+            }
+            advance();
+            return takeNumber(0, MOST_MEASURE)
+                    && addStep((2 * measure + (above ? 1 : 0)) * Rule.BASE + taken);
         }
 
         private static int measureOf(Word word) {
@@ -1058,85 +1119,12 @@ public final class PartyWalls {
             }
         }
 
-        private boolean readComparison(int measure) {
-            boolean above = takeSignIf('>');
-            if (!above && !takeSign('<')) {
-                return false;
-            }
-            return takeNumber(0, MOST_MEASURE)
-                    && addStep((2 * measure + (above ? 1 : 0)) * Rule.BASE + number);
-        }
-
         /** There are fewer steps than bytes, so the row never is too short. */
         private boolean addStep(int step) {
             if (stepCount < steps.length) {
                 steps[stepCount] = step;
                 stepCount++;
             }
-            return true;
-        }
-
-        private void skipBlanks() {
-            while (place < end && text[place] == ' ') {
-                place++;
-            }
-        }
-
-        private boolean isDigitHere() {
-            return place < end && text[place] >= '0' && text[place] <= '9';
-        }
-
-        private boolean isLetterHere() {
-            return place < end && text[place] >= 'a' && text[place] <= 'z';
-        }
-
-        private Word takeWord() {
-            int start = place;
-            while (place < end && isLetterHere()) {
-                place++;
-            }
-            return Word.of(text, start, place);
-        }
-
-        private boolean takeWordIf(Word wanted) {
-            skipBlanks();
-            int start = place;
-            if (takeWord() == wanted) {
-                return true;
-            }
-            place = start;
-            return false;
-        }
-
-        private boolean takeSignIf(char sign) {
-            skipBlanks();
-            if (place >= end || text[place] != sign) {
-                return false;
-            }
-            place++;
-            return true;
-        }
-
-        private boolean takeSign(char sign) {
-            return takeSignIf(sign) || fail(NOT_HERE, place);
-        }
-
-        /** More digits than any number here needs are held at one that is above them all. */
-        private boolean takeNumber(int least, int most) {
-            skipBlanks();
-            int start = place;
-            int value = 0;
-            while (place < end && isDigitHere()) {
-                value = Math.min(10 * value + text[place] - '0', MOST_MEASURE + 1);
-                place++;
-            }
-            if (place == start) {
-                return fail(NOT_HERE, start);
-            }
-            if (value < least || value > most) {
-                return fail(NO_SUCH_NUMBER, start);
-            }
-            number = value;
             return true;
         }
     }
@@ -1271,6 +1259,7 @@ public final class PartyWalls {
         int disputeFrom = NONE;
         int begunOn = NONE;
         Proposal award;
+        // Tells something just while there is an award.
         int awardedOn = NONE;
         final Proposal[] proposals = new Proposal[THIRD + 1];
         final int[] surveyors = {NONE, NONE, NONE};
@@ -1356,7 +1345,6 @@ public final class PartyWalls {
 
         void undoAward(int today) {
             award = null;
-            awardedOn = NONE;
             allowedFrom = NONE;
             begunOn = NONE;
             disputeFromDay(today);
@@ -1626,7 +1614,7 @@ public final class PartyWalls {
             for (int i = 0; i < readings && days[i] <= day; i++) {
                 last = i;
             }
-            if (last + 1 >= readings || days[last] == day) {
+            if (last + 1 >= readings) {
                 return values[last];
             }
             int span = days[last + 1] - days[last];
