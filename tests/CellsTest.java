@@ -371,6 +371,9 @@ public final class CellsTest {
         Check.due("of another", x.balance(2, far, far), 0);
         Check.dueThrows("no owner", Check.INDEX, () -> x.balance(3, 0, 0));
         Check.dueThrows("owner -1", Check.INDEX, () -> x.balance(-1, 0, 0));
+        PartyWalls full = building(2, "");
+        fillBook(full);
+        Check.due("of a full book", full.balance(0, 0, 0), -3_000);
         // Above what an int holds.
         x.enter(0, 0);
         x.enter(0, 0);

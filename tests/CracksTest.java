@@ -308,8 +308,15 @@ public final class CracksTest {
         Check.due("behind the last", x.at(0, 21), PartyWalls.VOIDED);
         Check.due("day most", x.at(0, Integer.MAX_VALUE), PartyWalls.VOIDED);
         Check.due("day least", x.at(0, Integer.MIN_VALUE), PartyWalls.VOIDED);
-        Check.dueThrows("no gauge", Check.INDEX, () -> x.at(2, 0));
+        Check.dueThrows("no gauge", Check.INDEX, () -> x.at(3, 0));
         Check.dueThrows("gauge -1", Check.INDEX, () -> x.at(-1, 0));
+        x.gauge();
+        for (int i = 0; i < 40; i++) {
+            x.read(2, 2 * i, 3 * i);
+        }
+        Check.due("the 40th", x.at(2, 78), 117);
+        Check.due("behind the 40th", x.at(2, 79), PartyWalls.VOIDED);
+        Check.due("ahead of the 40th", x.at(2, 77), 115);
         // More than an int holds on the way.
         for (int i = 0; i < 99; i++) {
             x.wait(10_000);

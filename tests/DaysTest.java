@@ -14,6 +14,7 @@ public final class DaysTest {
         promise7Limits();
         promise7LastCounts();
         promise7FirstBytes();
+        promise7WholeTape();
         promise7Without();
         promise8();
         promise9();
@@ -290,6 +291,26 @@ public final class DaysTest {
             Check.due("first " + n, x.rule(n), places[n] < 0 ? clauses : -9);
             Check.due("place of the first " + n, x.fault(), places[n]);
         }
+    }
+
+    private static void promise7WholeTape() {
+        for (String last : new String[] {"post", "pos", "silence consent", "silence conse", "post 40", "dig 1 if", ";"}) {
+            String text = " ".repeat(400 - last.length()) + last;
+            int word = 400 - last.length() + last.lastIndexOf(' ') + 1;
+            boolean stands = !last.equals("pos") && !last.equals("silence conse") && !last.equals(";");
+            Check.dueRule(new PartyWalls(), text, -9, stands ? 400 : word);
+        }
+        Check.dueRule(new PartyWalls(), " ".repeat(393) + "post 9;", 1, -1);
+        Check.dueRule(new PartyWalls(), " ".repeat(400), 0, -1);
+        // As many steps of a condition as a TAPE holds, and their last one counts.
+        String text = "dig 1 if depth<1" + "or depth<1".repeat(37) + "or depth>1" + ";";
+        PartyWalls x = Check.withWall(2, text);
+        x.work(0, 0, 2, 0, 0, 0);
+        x.work(0, 0, 2, 1, 0, 0);
+        x.work(0, 0, 2, 2, 0, 0);
+        Check.due("by the first", x.state(0), 0);
+        Check.due("by none", x.state(1), 1);
+        Check.due("by the last", x.state(2), 0);
     }
 
     private static void promise7Without() {

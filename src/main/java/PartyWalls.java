@@ -283,7 +283,7 @@ public final class PartyWalls {
             throws IndexOutOfBoundsException, IllegalArgumentException {
         Work disputed = workAt(work);
         checkRange(which, 0, THIRD);
-        checkRange(from, today, Integer.MAX_VALUE);
+        checkLeast(from, today);
         checkRange(hours, 0, 2_324);
         checkRange(hours % 100, hours / 100 + 1, 24);
         checkRange(share, 0, 100);
@@ -570,7 +570,7 @@ public final class PartyWalls {
     public int read(int gauge, int day, int value)
             throws IndexOutOfBoundsException, IllegalArgumentException {
         Gauge of = gaugeAt(gauge);
-        checkRange(day, 0, Integer.MAX_VALUE);
+        checkLeast(day, 0);
         checkRange(value, -10_000, 10_000);
         if (of.readings() >= MOST_READINGS) {
             return -1;
@@ -711,6 +711,12 @@ public final class PartyWalls {
     private static void checkSegments(int from, int to) {
         checkRange(from, 0, SEGMENTS - 1);
         checkRange(to, from, SEGMENTS - 1);
+    }
+
+    private static void checkLeast(int value, int least) {
+        if (value < least) {
+            throw new IllegalArgumentException("below its least");
+        }
     }
 
     private static void checkRange(int value, int least, int most) {
