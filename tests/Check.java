@@ -4,19 +4,39 @@ final class Check {
         long answer();
     }
 
+    interface CallOf {
+        long answer(int argument);
+    }
+
     static final Class<?> ARGUMENT = IllegalArgumentException.class;
     static final Class<?> INDEX = IndexOutOfBoundsException.class;
     static final Class<?> STATE = IllegalStateException.class;
 
     private static int wrong;
+    private static String sentence = "";
 
     private Check() {
     }
 
+    /** A test of its own for one sentence of the document: what is wrong in it is told with its words. */
+    static void sentence(String words, Runnable test) {
+        sentence = "[" + words + "] ";
+        try {
+            test.run();
+        } catch (RuntimeException e) {
+            tellWrong("ended with " + e);
+        }
+        sentence = "";
+    }
+
+    private static void tellWrong(String what) {
+        wrong++;
+        System.out.println(sentence + what);
+    }
+
     static void due(String call, long got, long want) {
         if (got != want) {
-            wrong++;
-            System.out.println(call + " answered " + got + ", due is " + want);
+            tellWrong(call + " answered " + got + ", due is " + want);
         }
     }
 
@@ -25,16 +45,16 @@ final class Check {
     }
 
     static void dueThrows(String call, Class<?> want, Call made) {
+        long got;
         try {
-            wrong++;
-            System.out.println(call + " answered " + made.answer() + ", due is " + want);
+            got = made.answer();
         } catch (RuntimeException e) {
-            if (e.getClass() == want && isThrownByCode(e)) {
-                wrong--;
-            } else {
-                System.out.println(call + " threw " + e + ", due is " + want);
+            if (e.getClass() != want || !isThrownByCode(e)) {
+                tellWrong(call + " threw " + e + ", due is " + want);
             }
+            return;
         }
+        tellWrong(call + " answered " + got + ", due is " + want);
     }
 
     /** Whether the class itself threw it, not the machine or the library in it. */
@@ -44,12 +64,45 @@ final class Check {
                 && !(thrown instanceof ArrayIndexOutOfBoundsException);
     }
 
+    /** What is below the least and above the most is refused as an argument; the two are taken. */
+    static void dueRange(String name, int least, int most, CallOf call) {
+        dueBounds(name, ARGUMENT, least, most, call);
+    }
+
+    /** Numbers from 0 to below the count are such; others are none. */
+    static void dueNumbers(String name, int count, CallOf call) {
+        dueBounds(name, INDEX, 0, count - 1, call);
+    }
+
+    private static void dueBounds(String name, Class<?> refusal, int least, int most, CallOf call) {
+        int[] refused = {least - 1, Integer.MIN_VALUE, most + 1, Integer.MAX_VALUE};
+        for (int argument : refused) {
+            dueThrows(name + " " + argument, refusal, () -> call.answer(argument));
+        }
+        if (least <= most) {
+            dueTaken(name + " " + least, () -> call.answer(least));
+            dueTaken(name + " " + most, () -> call.answer(most));
+        }
+    }
+
+    private static void dueTaken(String call, Call made) {
+        try {
+            made.answer();
+        } catch (RuntimeException e) {
+            tellWrong(call + " threw " + e + ", due is an answer");
+        }
+    }
+
     /** Feeds a text, blanks behind it up to full feeds, and reads it as the RULE. */
     static int rule(PartyWalls x, String text) {
+        feed(x, text);
+        return x.rule(text.length());
+    }
+
+    static void feed(PartyWalls x, String text) {
         for (int i = 0; i < text.length(); i += 20) {
             x.feed(four(text, i), four(text, i + 4), four(text, i + 8), four(text, i + 12), four(text, i + 16));
         }
-        return x.rule(text.length());
     }
 
     private static int four(String text, int from) {

@@ -294,7 +294,8 @@ public final class DaysTest {
     }
 
     private static void promise7WholeTape() {
-        for (String last : new String[] {"post", "pos", "silence consent", "silence conse", "post 40", "dig 1 if", ";"}) {
+        for (String last : new String[] {"post", "pos", "silence consent", "silence conse", "post 40", "dig 1 if",
+                ";"}) {
             String text = " ".repeat(400 - last.length()) + last;
             int word = 400 - last.length() + last.lastIndexOf(' ') + 1;
             boolean stands = !last.equals("pos") && !last.equals("silence conse") && !last.equals(";");
