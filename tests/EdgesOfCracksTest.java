@@ -164,7 +164,7 @@ public final class EdgesOfCracksTest {
     }
 
     private static void near() {
-        Check.sentence("Terms 4: whose PLACES are near (by the RULE now) apart at most", () -> {
+        Check.sentence("Terms 4: whose PLACES are near (by the RULE now, so season) apart at most", () -> {
             for (int near : new int[] {0, 1, 50, 399, 400}) {
                 for (int apart = Math.max(near - 1, 0); apart <= near + 1; apart++) {
                     PartyWalls x = two(places(1_000), places(1_000 + apart));
@@ -287,8 +287,8 @@ public final class EdgesOfCracksTest {
             }
             PartyWalls far = two(before, after);
             Check.rule(far, "near 400;");
-            dueJoined(far, 20, 0, 0, 0, 8_000);
             Check.due("with itself", far.joined(0, 0, 4), 0);
+            dueJoined(far, 20, 0, 0, 0, 8_000);
             // What one join leaves behind is nothing to the next.
             far.survey(0);
             far.crack(2, 1_400, 0);

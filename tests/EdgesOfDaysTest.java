@@ -53,7 +53,7 @@ public final class EdgesOfDaysTest {
             Check.due("wait 0", new PartyWalls().wait(0), 0);
             Check.due("today", new PartyWalls().count(3), 0);
         });
-        Check.sentence("What it is: An object is used for at most 512 calls after it has been made.", () -> {
+        Check.sentence("What it is: An object is used for at most 512 calls after it has been made;", () -> {
             PartyWalls x = new PartyWalls();
             String text = "dig 1 if depth<1" + "or depth<1".repeat(37) + "or depth>1" + ";" + " ".repeat(2);
             for (int i = 0; i < 24; i++) {
